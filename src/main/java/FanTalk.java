@@ -214,7 +214,8 @@ public final class FanTalk {
         }
         readers[FRIEND].learn(now.codes, codeA);
         readers[CHAPERONE].learn(now.codes, codeB);
-        for (int beats = 1; beats <= HIDE_BEATS; beats++) {
+        // Each word takes a beat at least.
+        for (int beats = Math.max(1, now.wants); beats <= HIDE_BEATS; beats++) {
             if (findHiding(beats, k)) {
                 return walk.number();
             }

@@ -295,6 +295,9 @@ public final class PromisesTest {
         fault("code  ", 6);
         fault("codes;", 0);
         fault("cod;", 0);
+        fault("mode;", 0);
+        fault("codez;", 0);
+        fault("acode;", 0);
         fault("cod", 0);
         fault("Code;", 0);
         fault("codE;", 0);
@@ -327,6 +330,12 @@ public final class PromisesTest {
         due("codes", x.count(0), 2);
         due("an entry of a code behind it", text("code;entry 1 0 0;code;").read(), -21);
         due("blanks alone", text("   ").read(), 0);
+        type(x, "draught 63;");
+        type(x, "draught 6");
+        due("what was cleared is not read", x.read(), -19);
+        type(x, "codes;");
+        type(x, "code");
+        due("what was cleared is not read", x.read(), -14);
         due("one row in two codes", text("code;code;entry 0 1 5;entry 1 1 5;").read(), 4);
     }
 
@@ -388,6 +397,13 @@ public final class PromisesTest {
         read(x, 2, 0, "7686");
         read(x, 3, 0, "8868");
         read(x, 4, 0, "777");
+        x.say(row(9, 11));
+        read(x, 4, 0, "");
+        FanTalk y = codes("code;entry 0 1 7;entry 0 2 9;entry 0 3 11;entry 0 4 6;");
+        y.say(row(9, 11));
+        read(y, 4, 0, "22");
+        y.say(row(7, 6));
+        read(y, 4, 0, "14");
         // an open 5 that comes by a draught is 4 to the aunt, too
         x.say(row(8, 8));
         x.draughts(1);
@@ -501,6 +517,11 @@ public final class PromisesTest {
         due("uses(1)", x.uses(1), 0);
         due("uses(2)", x.uses(2), 0);
         due("behind the others", x.entry(0, 5, row(4)), 3);
+        FanTalk y = codes("code;entry 0 0 0;entry 0 9 2;");
+        y.say(row(0, 2));
+        y.utter(0);
+        due("words 0 and 9 have uses", y.year(), 0);
+        due("not any more", y.uses(0) + y.uses(9), 0);
         due("all are gone", x.year(), 5);
         due("none", x.year(), 0);
         due("of no codes", new FanTalk().year(), 0);
@@ -639,6 +660,21 @@ public final class PromisesTest {
         FanTalk z = codes("code;entry 0 1 0 4;");
         z.want(1);
         due("no lawful row has that", z.hide(0, 0, 5), FanTalk.NONE);
+        z.want(1);
+        due("nor twice", z.hide(0, 0, 5), FanTalk.NONE);
+        FanTalk v = codes("code;entry 0 1 0 1;entry 0 2 3 2 1;entry 0 3 11;");
+        v.want(1);
+        v.want(2);
+        due("five beats", v.hide(0, 0, 1), row(0, 1, 3, 2, 1));
+        v.forget();
+        v.want(3);
+        due("the greatest state", v.hide(0, 0, 1), row(11));
+        // what comes at beat 2 has a state ahead of it that a chaperone sees: no state is greater than 11
+        FanTalk u = codes("code;code;entry 0 1 9;entry 1 0 6;entry 1 0 7;entry 1 0 8;entry 1 0 9;entry 1 0 11;"
+                + "entry 1 0 10 10;");
+        u.want(1);
+        due("none but with a chaperone's word", u.hide(0, 1, 0), FanTalk.NONE);
+        due("with one", u.hide(0, 1, 1), row(9));
         FanTalk w = codes("code;entry 0 1 10;entry 0 2 0;");
         w.want(1);
         w.want(2);
@@ -684,6 +720,10 @@ public final class PromisesTest {
         due("the least that is lawful", z.save(0, 1, 1), row(8, 6, 6));
         z.say(row(8, 6, 4, 6, 8));
         due("one", z.save(0, 1, 1), row(8, 6, 6, 6, 8));
+        FanTalk w = codes("code;entry 0 1 8;entry 0 1 9;entry 0 1 10;entry 0 1 11 11;");
+        w.say(row(11, 8));
+        due("nothing else is lawful behind 11", w.save(0, 1, 0), 2);
+        due("both", w.save(0, 1, 1), row(0, 0));
         z.say(row(10, 9, 7));
         due("one", z.save(0, 1, 1), row(10, 8, 7));
     }
@@ -697,6 +737,7 @@ public final class PromisesTest {
         refused(x, "safe(1)", () -> x.safe(1), FanTalk.BAD, BAD);
         x.entry(0, 3, row(0));
         due("a word alone", x.safe(0), 1 << 3);
+        due("word 0", codes("code;entry 0 0 5;").safe(0), 1);
         x.entry(0, 9, row(2));
         due("0 may be 2 by a draught", x.safe(0), 1 << 9);
         x.entry(0, 9, row(10));
@@ -843,6 +884,57 @@ public final class PromisesTest {
         x.image(1);
         x.from(0);
         due("an image keeps no images", x.from(1), 1);
+        promise26FromOther();
+    }
+
+    private static void promise26FromOther() {
+        FanTalk x = codes("code;entry 0 1 0;entry 0 2 2;");
+        x.image(1);
+        x.say(row(0));
+        x.utter(0);
+        x.utter(0);
+        x.want(3);
+        x.want(4);
+        x.fact(row(5), 6);
+        long before = x.digest();
+        x.image(0);
+        x.from(1);
+        due("nothing may be undone", x.undo(), FanTalk.NO);
+        x.say(row(2));
+        for (int i = 0; i < 5; i++) {
+            x.utter(0);
+            x.want(7);
+            x.fact(row(8), 9);
+        }
+        x.from(0);
+        due("as it was", x.digest(), before);
+        due("undo()", x.undo(), 1);
+        due("uses(1)", x.uses(1), 1);
+        due("uses(2)", x.uses(2), 0);
+        due("undo()", x.undo(), 1);
+        due("uses(1)", x.uses(1), 0);
+        due("uses(2)", x.uses(2), 0);
+        refused(x, "undo()", x::undo, FanTalk.NO, NO);
+        // an image of another time takes the place of all that was there
+        x.from(1);
+        x.say(row(2));
+        x.utter(0);
+        x.image(1);
+        x.from(0);
+        x.from(1);
+        due("undo()", x.undo(), 1);
+        due("uses(2)", x.uses(2), 0);
+        due("uses(1)", x.uses(1), 0);
+        x.utter(0);
+        x.entry(0, 3, row(7));
+        x.utter(0);
+        x.image(0);
+        x.read();
+        x.utter(0);
+        x.from(0);
+        x.undo();
+        due("uses(2)", x.uses(2), 1);
+        due("entries", x.count(1), 3);
     }
 
     private static void promise27Status() {

@@ -27,7 +27,7 @@ public final class RandomRunsTest {
     }
 
     public static void main(String[] args) {
-        int runs = args.length > 0 ? Integer.parseInt(args[0]) : 120;
+        int runs = args.length > 0 ? Integer.parseInt(args[0]) : 500;
         long first = args.length > 1 ? Long.parseLong(args[1]) : 1;
         int wrong = java.util.stream.IntStream.range(0, runs).parallel()
                 .map(i -> new RandomRunsTest(first + i).run(first + i) ? 0 : 1).sum();
