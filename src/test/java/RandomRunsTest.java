@@ -3,8 +3,8 @@ import java.util.Deque;
 import java.util.Random;
 
 /**
- * Runs of up to 512 calls, drawn by seeds, on the class and on the Model at once: every answer is alike,
- * and so is the digest behind every call.
+ * Runs of 512 calls, drawn by seeds, on the class and on the Model at once: every answer is alike,
+ * and so is the digest behind every fourth call or so.
  *
  * java RandomRunsTest [RUNS [FIRST SEED]]
  */
@@ -19,6 +19,7 @@ public final class RandomRunsTest {
     private final int states;
     private final int words;
     private boolean alike = true;
+    private int made = 0;
 
     private RandomRunsTest(long seed) {
         random = new Random(seed);
@@ -27,7 +28,7 @@ public final class RandomRunsTest {
     }
 
     public static void main(String[] args) {
-        int runs = args.length > 0 ? Integer.parseInt(args[0]) : 500;
+        int runs = args.length > 0 ? Integer.parseInt(args[0]) : 1000;
         long first = args.length > 1 ? Long.parseLong(args[1]) : 1;
         int wrong = java.util.stream.IntStream.range(0, runs).parallel()
                 .map(i -> new RandomRunsTest(first + i).run(first + i) ? 0 : 1).sum();
@@ -38,11 +39,10 @@ public final class RandomRunsTest {
     }
 
     private boolean run(long seed) {
-        for (int i = 0; i < CALLS && alike; i++) {
+        while (mayGoOn()) {
             call();
-            if (alike && random.nextInt(4) == 0 && x.digest() != m.digest()) {
-                System.out.println("seed " + seed + ": the digest is another one behind " + last);
-                return false;
+            if (mayGoOn() && random.nextInt(4) == 0) {
+                due("digest()", x.digest(), m.digest());
             }
         }
         if (!alike) {
@@ -51,7 +51,13 @@ public final class RandomRunsTest {
         return alike;
     }
 
+    /** What an object answers behind its 512th call is free. */
+    private boolean mayGoOn() {
+        return alike && made < CALLS;
+    }
+
     private void due(String call, long got, long want) {
+        made++;
         last.add(call + " = " + want);
         if (last.size() > 40) {
             last.remove();
@@ -167,7 +173,9 @@ public final class RandomRunsTest {
             spoil(b);
         }
         typeAll(b);
-        due("read() of '" + b + "'", x.read(), m.read());
+        if (mayGoOn()) {
+            due("read() of '" + b + "'", x.read(), m.read());
+        }
     }
 
     private String item(int i) {
@@ -197,7 +205,7 @@ public final class RandomRunsTest {
     }
 
     private void typeAll(StringBuilder b) {
-        for (int at = 0; at < b.length() && alike;) {
+        for (int at = 0; at < b.length() && mayGoOn();) {
             int n = Math.min(b.length() - at, 1 + pick(8));
             long v = pick(2) == 0 ? 0 : random.nextLong();
             for (int i = 0; i < n; i++) {
@@ -206,7 +214,7 @@ public final class RandomRunsTest {
             due("type(" + v + ", " + n + ")", x.type(v, n), m.type(v, n));
             at += n;
         }
-        if (pick(10) == 0) {
+        if (mayGoOn() && pick(10) == 0) {
             int n = any(9);
             due("type(32, " + n + ")", x.type(32, n), m.type(32, n));
         }
