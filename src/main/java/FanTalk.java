@@ -621,13 +621,14 @@ public final class FanTalk {
             }
             looked = NONE;
             heard = 0;
+            int behind = 0;
             for (int beat = 0; beat < many; beat++) {
-                int entry = choice(beat, many);
+                int entry = beat < behind ? NONE : choice(beat, many);
                 if (entry != NONE) {
                     words[heard] = meanings[entry];
                     lookedFor[heard] = looked;
                     heard++;
-                    beat += lengths[entry] - 1;
+                    behind = beat + lengths[entry];
                 }
             }
         }

@@ -22,6 +22,7 @@ import java.util.LinkedHashMap;
 import java.util.List;
 import java.util.Map;
 import java.util.Set;
+import java.util.regex.Pattern;
 import javax.lang.model.element.Element;
 import javax.lang.model.element.ElementKind;
 import javax.lang.model.element.ExecutableElement;
@@ -244,7 +245,15 @@ public final class FormTest extends TreePathScanner<Void, Void> {
         }
         String counter = step.substring(0, step.length() - 2);
         String bound = step.endsWith("++") ? " <=? .*" : " >=? .*";
-        return tree.getCondition().toString().matches("(.*\\W)?" + counter + bound);
+        return tree.getCondition().toString().matches("(.*\\W)?" + counter + bound)
+                && !isSet(counter, tree.getStatement().toString());
+    }
+
+    /** Whether a body sets a counter: then the loop's head alone does not tell its end. */
+    private static boolean isSet(String counter, String body) {
+        String behind = "(\\+\\+|--| (\\+|-|\\*|/|%|&|\\||\\^|<<|>>>?)?= )";
+        return Pattern.compile("(?<![\\w.])" + counter + behind + "|(\\+\\+|--)" + counter + "\\b")
+                .matcher(body).find();
     }
 
     @Override
